@@ -208,6 +208,9 @@ public final class AgainstModelTest {
         if (model.grew(1, 2) > 0) {
             mark("unpacked: dropped");
         }
+        if (model.tight > 0) {
+            mark("a span below 4096");
+        }
     }
 
     private static void oneRun(int run) {
@@ -252,7 +255,8 @@ public final class AgainstModelTest {
                 "state refused by -1", "state refused by -4", "live refused by -1", "likely refused by -1",
                 "cost refused by -1", "cheapest refused by -1", "keep refused by -3", "back refused by -2",
                 "count refused by -1", "live: a state without flow", "live: a line longer than 2",
-                "live: dropped", "packed: dropped", "unpacked: dropped");
+                "live: dropped", "packed: dropped", "unpacked: dropped",
+                "a span below 4096");
         if (args.length > 0) {
             System.out.println(seen);
         }

@@ -158,6 +158,8 @@ final class PlainModel {
     List<Integer> pack = new ArrayList<>();
     List<Integer> unpacked = new ArrayList<>();
     Grown packedBy, unpackedBy;
+    // How often a bit was packed or unpacked in a span of less than 4096: MIDDLE is LOW then.
+    int tight = 0;
     List<Grown> kept = new ArrayList<>();
 
     List<Integer> bitsOf(int v) {
@@ -222,6 +224,7 @@ final class PlainModel {
         BigInteger high = RANGE.subtract(BigInteger.ONE);
         for (int v : input) {
             for (int b : bitsOf(v)) {
+                tight += high.subtract(low).compareTo(big(4096)) < 0 ? 1 : 0;
                 BigInteger middle = high.subtract(low).divide(big(4096)).multiply(big(chance(packedBy.here))).add(low);
                 if (b == 1) {
                     high = middle;
@@ -261,6 +264,7 @@ final class PlainModel {
         for (int i = 0; i < n; i++) {
             List<Integer> bits = new ArrayList<>();
             while (bits.size() < 8) {
+                tight += high.subtract(low).compareTo(big(4096)) < 0 ? 1 : 0;
                 BigInteger middle = high.subtract(low).divide(big(4096)).multiply(big(chance(unpackedBy.here))).add(low);
                 int b = code.compareTo(middle) <= 0 ? 1 : 0;
                 if (b == 1) {
