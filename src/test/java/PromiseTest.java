@@ -307,6 +307,13 @@ public final class PromiseTest {
         x.wipe();
         write(x, 1, 8, 7, 6);
         due("alike()", x.alike(), 0);
+        CloningMachine zero = new CloningMachine();
+        zero.write(0);
+        zero.pack();
+        zero.unpack(1);
+        due("alike()", zero.alike(), 1);
+        zero.wipe();
+        due("alike() without input", zero.alike(), 0);
     }
 
     private static void grew() {
@@ -370,6 +377,25 @@ public final class PromiseTest {
         dueState(x, 1, 0, 1, 0, 0);
         neitherFirstNorRestAlone();
         droppedWhenFull();
+        for (int start = 0; start < 3; start++) {
+            growsToMost(start, 40);
+            growsToMost(start, 250);
+        }
+    }
+
+    /** Each cloning adds a state and each dropping comes with MOST of them, so the numbers add up. */
+    private static void growsToMost(int start, int most) {
+        CloningMachine x = withSettings(start, 1, 1, most, 0);
+        int first = x.live(0);
+        int drawn = 1;
+        for (int i = 0; i < 480; i++) {
+            drawn = drawn * 1103515245 + 12345;
+            x.take((drawn >>> 16) & 255);
+        }
+        String where = " with START " + start + ", MOST " + most;
+        due("that it was dropped" + where, x.live(4) > 0 ? 1 : 0, 1);
+        due("live(2)" + where, x.live(2), 480 * 8);
+        due("live(3)" + where, x.live(3), x.live(4) * (most - first) + x.live(0) - first);
     }
 
     private static void neitherFirstNorRestAlone() {
@@ -520,6 +546,10 @@ public final class PromiseTest {
         due("cheapest(0) by the other order", clonedOnce(1).cheapest(0), 0x55);
         due("cheapest(1) by the other order", clonedOnce(1).cheapest(1), 4 * (1024 + 1706));
         dueLive(y, 2, 1, 4, 1, 0, 6, 0, 1);
+        CloningMachine ones = new CloningMachine();
+        bits(ones, "1");
+        due("cheapest(0) behind a 1", ones.cheapest(0), 255);
+        due("cheapest(1) behind a 1", ones.cheapest(1), 8 * 1536);
         lowestOfSeveral(0);
         lowestOfSeveral(1);
     }
@@ -594,6 +624,16 @@ public final class PromiseTest {
         for (int i = 0; i < 50; i++) {
             due("take(" + i + ") behind back()", x.take(i), same.take(i));
         }
+        CloningMachine dropped = withSettings(2, 1, 1, 40, 0);
+        for (int i = 0; i < 40; i++) {
+            dropped.take(97);
+        }
+        int drops = dropped.live(4);
+        due("that it was dropped", drops > 0 ? 1 : 0, 1);
+        dropped.keep();
+        dropped.renew();
+        dropped.back();
+        due("live(4) behind back()", dropped.live(4), drops);
     }
 
     private static void count() {
