@@ -3,8 +3,9 @@ import java.util.ArrayList;
 import java.util.List;
 
 /**
- * The document once more, written for the tests without a look at the program:
- * objects for states, big numbers for the span, everything reckoned when asked.
+ * The document once more, in another way than the program has it: objects for
+ * states, big numbers for the span, everything reckoned when asked. Whoever wrote
+ * both may have misread the document in both.
  */
 final class PlainModel {
     static final int BAD = -1, NO = -2, FULL = -3, NONE = -4;
