@@ -105,32 +105,6 @@ public final class AgainstModelTest {
         }
     }
 
-    private static int programs(CloningMachine x, String call, int[] a) {
-        switch (call) {
-            case "set": return x.set(a[0], a[1]);
-            case "renew": return x.renew();
-            case "write": return x.write(a[0]);
-            case "wipe": return x.wipe();
-            case "pack": return x.pack();
-            case "unpack": return x.unpack(a[0]);
-            case "spoil": return x.spoil(a[0], a[1]);
-            case "at": return x.at(a[0], a[1]);
-            case "alike": return x.alike();
-            case "grew": return x.grew(a[0], a[1]);
-            case "bit": return x.bit(a[0]);
-            case "take": return x.take(a[0]);
-            case "state": return x.state(a[0], a[1]);
-            case "live": return x.live(a[0]);
-            case "likely": return x.likely(a[0]);
-            case "guess": return x.guess();
-            case "cost": return x.cost(a[0], a[1]);
-            case "cheapest": return x.cheapest(a[0]);
-            case "keep": return x.keep();
-            case "back": return x.back();
-            default: return x.count(a[0]);
-        }
-    }
-
     private static int models(PlainModel x, String call, int[] a) {
         switch (call) {
             case "set": return x.set(a[0], a[1]);
@@ -155,14 +129,6 @@ public final class AgainstModelTest {
             case "back": return x.back();
             default: return x.count(a[0]);
         }
-    }
-
-    private static String shown(String call, int[] a) {
-        StringBuilder text = new StringBuilder(call).append('(');
-        for (int i = 0; i < a.length; i++) {
-            text.append(i == 0 ? "" : ", ").append(a[i]);
-        }
-        return text.append(')').toString();
     }
 
     private static void due(int run, int call, String text, int got, int want) {
@@ -225,7 +191,7 @@ public final class AgainstModelTest {
             String call = i < 6 && random.nextInt(3) != 0 ? "set" : CALLS[draw(random, weights)];
             int[] a = arguments(call, random, model, eager, alphabet);
             int want = models(model, call, a);
-            due(run, i + 1, shown(call, a), programs(x, call, a), want);
+            due(run, i + 1, Calls.shown(call, a), Calls.on(x, call, a), want);
             mark(call + (want < 0 ? " refused by " + want : " answered"));
         }
         markSights(model);
