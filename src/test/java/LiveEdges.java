@@ -294,7 +294,8 @@ final class LiveEdges {
     static void promise18_cost_theLowestOf16Bits() {
         Used x = new Used().bits("1");
         // CHANCE is 5 times 4096 by 8: 2560.
-        x.due(2560, "state", 0, 4).due(16 * 2560, "cost", 0, 16).due(15 * 2560 + 1536, "cost", 1, 16).due(15 * 2560, "cost", 1, 15);
+        x.due(2560, "state", 0, 4).due(16 * 2560, "cost", 0, 16);
+        x.due(15 * 2560 + 1536, "cost", 1, 16).due(15 * 2560, "cost", 1, 15);
     }
 
     static void promise18_cost_isTheSameByTheOtherOrder() {
