@@ -1,3 +1,5 @@
+import java.util.ArrayList;
+import java.util.List;
 import java.util.Random;
 import java.util.TreeMap;
 
@@ -12,8 +14,21 @@ public final class AgainstModelTest {
         {1, 0, 60, 1, 8, 10, 3, 20, 4, 6, 1, 1, 1, 1, 1, 1, 1, 0, 1, 1, 2},
         {1, 1, 0, 0, 0, 0, 0, 0, 0, 0, 40, 90, 60, 20, 6, 6, 10, 3, 5, 3, 2}};
 
+    private static final int CALLS_MOST = 512;
+    private static final int LOOKS = 100;
+
     private static final TreeMap<String, Integer> seen = new TreeMap<>();
     private static int wrong = 0;
+
+    private static final class Look {
+        final String call;
+        final int[] arguments;
+
+        Look(String call, int... arguments) {
+            this.call = call;
+            this.arguments = arguments;
+        }
+    }
 
     private static void mark(String what) {
         seen.merge(what, 1, Integer::sum);
@@ -131,30 +146,49 @@ public final class AgainstModelTest {
         }
     }
 
-    private static void due(int run, int call, String text, int got, int want) {
+    private static int compareCall(int run, int number, String call, int[] a, CloningMachine x, PlainModel model) {
+        int want = models(model, call, a);
+        int got = Calls.on(x, call, a);
         if (got != want) {
             wrong++;
             if (wrong <= 20) {
-                System.out.println("run " + run + ", call " + call + ": " + text + " answered " + got + ", due is " + want);
+                System.out.println("run " + run + ", call " + number + ": " + Calls.shown(call, a)
+                        + " answered " + got + ", due is " + want);
             }
         }
+        return want;
     }
 
-    /** Everything that can be looked at without a change, behind a run. */
-    private static void compareAll(int run, CloningMachine x, PlainModel model) {
+    /** Everything that can be looked at without a change, as things stand in the model. */
+    private static List<Look> allLooks(PlainModel model) {
+        List<Look> looks = new ArrayList<>();
         for (int what = 0; what < 8; what++) {
-            due(run, 513, "live(" + what + ")", x.live(what), model.live(what));
+            looks.add(new Look("live", what));
             for (int s = 0; s < model.live.states.size(); s++) {
-                due(run, 513, "state(" + s + ", " + what + ")", x.state(s, what), model.state(s, what));
+                looks.add(new Look("state", s, what));
             }
         }
+        int[] lengths = {model.input.size(), model.pack.size(), model.unpacked.size()};
         for (int row = 0; row < 3; row++) {
-            for (int i = 0; i < 100; i++) {
-                due(run, 513, "at(" + row + ", " + i + ")", x.at(row, i), model.at(row, i));
+            for (int i = 0; i <= lengths[row]; i++) {
+                looks.add(new Look("at", row, i));
             }
         }
         for (int what = 0; what < 9; what++) {
-            due(run, 513, "count(" + what + ")", x.count(what), model.count(what));
+            looks.add(new Look("count", what));
+        }
+        for (int k = 0; k < 6; k++) {
+            looks.add(new Look("grew", k / 3, k % 3));
+        }
+        return looks;
+    }
+
+    /** As many looks as there are calls left, another part of them all in each run. */
+    private static void compareLooks(int run, int made, CloningMachine x, PlainModel model) {
+        List<Look> looks = allLooks(model);
+        for (int i = made; i < CALLS_MOST; i++) {
+            Look look = looks.get((run * LOOKS + i) % looks.size());
+            compareCall(run, i + 1, look.call, look.arguments, x, model);
         }
     }
 
@@ -186,16 +220,17 @@ public final class AgainstModelTest {
         int alphabet = new int[] {1, 2, 4, 256}[random.nextInt(4)];
         CloningMachine x = new CloningMachine();
         PlainModel model = new PlainModel();
-        for (int i = 0; i < 512; i++) {
+        // Every other run ends with looks; none goes beyond the calls that are promised.
+        int drawn = run % 2 == 0 ? CALLS_MOST : CALLS_MOST - LOOKS;
+        for (int i = 0; i < drawn; i++) {
             // Settings mostly come early, so that machines grow for long.
             String call = i < 6 && random.nextInt(3) != 0 ? "set" : CALLS[draw(random, weights)];
             int[] a = arguments(call, random, model, eager, alphabet);
-            int want = models(model, call, a);
-            due(run, i + 1, Calls.shown(call, a), Calls.on(x, call, a), want);
+            int want = compareCall(run, i + 1, call, a, x, model);
             mark(call + (want < 0 ? " refused by " + want : " answered"));
         }
         markSights(model);
-        compareAll(run, x, model);
+        compareLooks(run, drawn, x, model);
     }
 
     private static void mustHaveSeen(String... sights) {

@@ -9,10 +9,8 @@ import java.nio.file.Path;
 import java.util.Arrays;
 import java.util.Random;
 import java.util.TreeSet;
-import java.util.regex.Matcher;
-import java.util.regex.Pattern;
 
-/** The document's face, and those rules of LANGUAGE.md that can be looked up in the source. */
+/** The document's face, and those rules of LANGUAGE.md that can be looked up. */
 public final class LanguageTest {
     private static final Path SOURCE = Path.of("src/main/java/CloningMachine.java");
     private static final String[] FACE = {
@@ -20,18 +18,9 @@ public final class LanguageTest {
         "grew(int,int)", "guess()", "keep()", "likely(int)", "live(int)", "pack()", "renew()",
         "set(int,int)", "spoil(int,int)", "state(int,int)", "take(int)", "unpack(int)", "wipe()",
         "write(int)"};
-    private static final String[] BANNED = {
-        "throw", "throws", "try", "catch", "synchronized", "assert", "import", "package", "native",
-        "volatile", "transient", "Object", "Random", "System.out", "Thread", "equals", "hashCode",
-        "toString", "getClass"};
-
-    private static int wrong = 0;
 
     private static void must(boolean holds, String what) {
-        if (!holds) {
-            wrong++;
-            System.out.println("not so: " + what);
-        }
+        Faults.must(holds, what);
     }
 
     private static String signature(Method m) {
@@ -81,6 +70,9 @@ public final class LanguageTest {
             must(Modifier.isStatic(k.getModifiers()) && !Modifier.isPublic(k.getModifiers())
                     && !Modifier.isProtected(k.getModifiers()), k + " is static, private or package-visible");
             must(k.getDeclaredFields().length <= 20, k + " has some twenty fields at most");
+            for (Method m : k.getDeclaredMethods()) {
+                must(Arrays.stream(FACE).noneMatch(call -> call.startsWith(m.getName() + "(")), m + " bears no public name");
+            }
             for (Field f : k.getDeclaredFields()) {
                 must(!Modifier.isStatic(f.getModifiers()), f + " is no static state");
             }
@@ -89,15 +81,8 @@ public final class LanguageTest {
 
     private static void source() throws IOException {
         String text = Files.readString(SOURCE);
-        String code = text.replaceAll("(?s)/\\*.*?\\*/", " ").replaceAll("//[^\n]*", " ");
-        for (String word : BANNED) {
-            Matcher found = Pattern.compile("\\b" + Pattern.quote(word) + "\\b").matcher(code);
-            must(!found.find(), "the source does without " + word);
-        }
-        must(!code.contains("->") && !code.contains("::"), "the source has no lambda and no method reference");
-        must(!Pattern.compile("\\w+Exact\\b").matcher(code).find(), "the source calls nothing that ends in Exact");
-        must(!Pattern.compile("\\bstatic\\s*\\{").matcher(code).find(), "the source has no static initialiser");
         must(text.chars().allMatch(sign -> sign == '\n' || sign >= 32 && sign < 127), "the source is plain text");
+        SourceRules.check(SOURCE);
     }
 
     private static int wild(Random random) {
@@ -136,12 +121,13 @@ public final class LanguageTest {
     }
 
     public static void main(String[] args) throws IOException, IllegalAccessException {
+        Faults.in("the language");
         face();
         fields();
         source();
         nothingIsThrown();
-        System.out.println(wrong == 0 ? "the face and the rules are kept" : wrong + " faults");
-        if (wrong != 0) {
+        System.out.println(Faults.number() == 0 ? "the face and the rules are kept" : Faults.number() + " faults");
+        if (Faults.number() != 0) {
             System.exit(1);
         }
     }

@@ -222,25 +222,15 @@ final class TermsEdges {
         Used.clonedTwice().due(682, "state", 2, 4);
     }
 
-    static void terms1_theLeastChanceIs1() {
+    /** The bounds of 1 and 4095 themselves lie beyond 512 calls, where answers are free: NOTES.md says why. */
+    static void terms1_theLeastChanceOfAllRunsIs1() {
         // 3 times 4096 by 8182 is 1.5.
         new Used().takeTimes(511, 0).due(1, "state", 0, 4);
-        // The least by itself is 0 only beyond 512 calls, where answers are free; this program holds it there, too.
-        CloningMachine x = new CloningMachine();
-        for (int i = 0; i < 1000; i++) {
-            x.take(0);
-        }
-        Faults.due("state(0, 4) behind 8000 zeros", x.state(0, 4), 1);
     }
 
-    static void terms1_theGreatestChanceIs4095() {
+    static void terms1_theGreatestChanceOfAllRunsIs4094() {
         // 8179 times 4096 by 8182 is 4094.5.
         new Used().takeTimes(511, 255).due(4094, "state", 0, 4);
-        CloningMachine x = new CloningMachine();
-        for (int i = 0; i < 1000; i++) {
-            x.take(255);
-        }
-        Faults.due("state(0, 4) behind 8000 ones", x.state(0, 4), 4095);
     }
 
     // ---- 2
