@@ -1,5 +1,4 @@
 import com.sun.source.tree.ArrayAccessTree;
-import com.sun.source.tree.AssertTree;
 import com.sun.source.tree.AssignmentTree;
 import com.sun.source.tree.BinaryTree;
 import com.sun.source.tree.ClassTree;
@@ -7,18 +6,12 @@ import com.sun.source.tree.CompilationUnitTree;
 import com.sun.source.tree.CompoundAssignmentTree;
 import com.sun.source.tree.EnhancedForLoopTree;
 import com.sun.source.tree.ExpressionTree;
-import com.sun.source.tree.ImportTree;
-import com.sun.source.tree.LambdaExpressionTree;
 import com.sun.source.tree.LiteralTree;
-import com.sun.source.tree.MemberReferenceTree;
 import com.sun.source.tree.MethodInvocationTree;
 import com.sun.source.tree.MethodTree;
 import com.sun.source.tree.NewArrayTree;
 import com.sun.source.tree.NewClassTree;
-import com.sun.source.tree.SynchronizedTree;
-import com.sun.source.tree.ThrowTree;
 import com.sun.source.tree.Tree;
-import com.sun.source.tree.TryTree;
 import com.sun.source.tree.TypeCastTree;
 import com.sun.source.tree.VariableTree;
 import com.sun.source.util.JavacTask;
@@ -49,6 +42,8 @@ import javax.tools.ToolProvider;
  * nothing that calls itself, and touches arrays in two classes.
  */
 final class SourceRules extends TreePathScanner<Void, Void> {
+    private static final Set<Tree.Kind> FORBIDDEN = Set.of(Tree.Kind.IMPORT, Tree.Kind.LAMBDA_EXPRESSION,
+            Tree.Kind.MEMBER_REFERENCE, Tree.Kind.THROW, Tree.Kind.TRY, Tree.Kind.SYNCHRONIZED, Tree.Kind.ASSERT);
     private static final Set<String> LIBRARY = Set.of("java.lang.Math.max", "java.lang.Math.min");
     private static final Set<String> TYPES = Set.of("int", "long", "boolean", "int[]");
     private static final Set<String> WHERE_ARRAYS_ARE_TOUCHED = Set.of("CloningMachine.Row", "CloningMachine.Settings");
@@ -123,13 +118,15 @@ final class SourceRules extends TreePathScanner<Void, Void> {
         callees.computeIfAbsent(methodHere(), k -> new TreeSet<>()).add(nameOf(called));
     }
 
-    // ---- rules 1 to 3: classes and types
-
     @Override
-    public Void visitImport(ImportTree tree, Void p) {
-        must(false, tree, "nothing is imported");
-        return super.visitImport(tree, p);
+    public Void scan(Tree tree, Void p) {
+        if (tree != null) {
+            must(!FORBIDDEN.contains(tree.getKind()), tree, "the program does without " + tree.getKind());
+        }
+        return super.scan(tree, p);
     }
+
+    // ---- rules 1 to 3: classes and types
 
     @Override
     public Void visitClass(ClassTree tree, Void p) {
@@ -140,18 +137,6 @@ final class SourceRules extends TreePathScanner<Void, Void> {
             must(m.getKind() != Tree.Kind.BLOCK, m, "no initialiser block");
         }
         return super.visitClass(tree, p);
-    }
-
-    @Override
-    public Void visitLambdaExpression(LambdaExpressionTree tree, Void p) {
-        must(false, tree, "no lambda");
-        return super.visitLambdaExpression(tree, p);
-    }
-
-    @Override
-    public Void visitMemberReference(MemberReferenceTree tree, Void p) {
-        must(false, tree, "no method reference");
-        return super.visitMemberReference(tree, p);
     }
 
     @Override
@@ -292,30 +277,6 @@ final class SourceRules extends TreePathScanner<Void, Void> {
     public Void visitTypeCast(TypeCastTree tree, Void p) {
         must(tree.getType().getKind() == Tree.Kind.PRIMITIVE_TYPE, tree, "only numbers are cast");
         return super.visitTypeCast(tree, p);
-    }
-
-    @Override
-    public Void visitThrow(ThrowTree tree, Void p) {
-        must(false, tree, "no throw");
-        return super.visitThrow(tree, p);
-    }
-
-    @Override
-    public Void visitTry(TryTree tree, Void p) {
-        must(false, tree, "no try");
-        return super.visitTry(tree, p);
-    }
-
-    @Override
-    public Void visitSynchronized(SynchronizedTree tree, Void p) {
-        must(false, tree, "no synchronized");
-        return super.visitSynchronized(tree, p);
-    }
-
-    @Override
-    public Void visitAssert(AssertTree tree, Void p) {
-        must(false, tree, "no assert");
-        return super.visitAssert(tree, p);
     }
 
     @Override
